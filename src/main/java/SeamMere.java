@@ -467,7 +467,7 @@ public final class SeamMere {
         return is ? 1 : 0;
     }
 
-    // All rows are read and set here, so that no index goes unlooked at.
+    // Rows are read and set here, so that no index goes unlooked at.
 
     private static int at(int[] row, int i) {
         return row != null && i >= 0 && i < row.length ? row[i] : 0;
@@ -518,11 +518,13 @@ public final class SeamMere {
         }
 
         int ofGap(int g, int number) {
-            return at(gapRow, g * GAP_NUMBERS + number);
+            int i = g * GAP_NUMBERS + number;
+            return i >= 0 && i < gapRow.length ? gapRow[i] : 0;
         }
 
         int ofStitcher(int d, int number) {
-            return at(stitcherRow, d * STITCHER_NUMBERS + number);
+            int i = d * STITCHER_NUMBERS + number;
+            return i >= 0 && i < stitcherRow.length ? stitcherRow[i] : 0;
         }
 
         boolean isLight(int hour) {
