@@ -173,6 +173,13 @@ public final class MeresTest {
         Due.is("no lay of them", y.lay(), NO);
         Due.same("a text that is not laid", y, before);
         Due.is("its gap is not laid", y.gap(0, 3), 3);
+        Due.write(y, "p8;" + "g0,0,7,1,1;".repeat(8) + "d1,1,1;".repeat(4) + "l3;" + "r1;".repeat(12));
+        Due.is("the most that can be", y.lay(), 8);
+        Due.is("and again", y.lay(), 8);
+        Due.is("and once more", y.lay(), 8);
+        Due.write(y, "g0,0,3,1,1;d1,1,1;");
+        Due.is("the least behind it", y.lay(), 1);
+        Due.is("nothing of it stays", y.count(0) * 1000 + y.count(2) * 100 + y.sky(5, 0) * 10 + y.sky(0, 1), 4110);
     }
 
     private static void promise6Gap() {
