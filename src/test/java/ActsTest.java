@@ -3,16 +3,7 @@ public final class ActsTest {
     private static final int BAD = SeamMere.BAD, NO = SeamMere.NO, NONE = SeamMere.NONE;
 
     public static void main(String[] args) {
-        promise10Send();
-        promise11Pass();
-        promise11Flight();
-        promise11Sewing();
-        promise11Closing();
-        promise11Rain();
-        promise12Frog();
-        promise13Undo();
-        promise13LastEight();
-        Due.end();
+        Due.runAll(ActsTest.class);
     }
 
     private static void promise10Send() {
@@ -32,7 +23,7 @@ public final class ActsTest {
         Due.is("closed", x.gap(0, 6), 1);
         Due.is("send to a closed gap", x.send(1, 0), NO);
         int[][] wrong = {{2, 0}, {-1, 0}, {0, 3}, {0, -2}, {2, -1}, {-1, -1}, {Integer.MAX_VALUE, 0}, {0, Integer.MIN_VALUE}};
-        String before = Due.all(x);
+        String before = Story.now(x);
         for (int[] w : wrong) {
             Due.is("send " + w[0] + "," + w[1], x.send(w[0], w[1]), BAD);
         }
@@ -44,7 +35,7 @@ public final class ActsTest {
         SeamMere x = new SeamMere();
         Due.is("1 hour", x.pass(1), 1);
         Due.is("24 hours", x.pass(24), 25);
-        String before = Due.all(x);
+        String before = Story.now(x);
         int[] wrong = {0, 25, -1, Integer.MAX_VALUE, Integer.MIN_VALUE};
         for (int n : wrong) {
             Due.is("pass " + n, x.pass(n), BAD);
@@ -189,7 +180,7 @@ public final class ActsTest {
         x.pass(1);
         x.send(0, 1);
         x.pass(1);
-        String before = Due.all(x);
+        String before = Story.now(x);
         int[] wrong = {2, -1, 8, Integer.MAX_VALUE, Integer.MIN_VALUE};
         for (int g : wrong) {
             Due.is("frog " + g, x.frog(g), BAD);

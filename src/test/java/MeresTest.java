@@ -3,16 +3,7 @@ public final class MeresTest {
     private static final int BAD = SeamMere.BAD, NO = SeamMere.NO, FULL = SeamMere.FULL, NONE = SeamMere.NONE;
 
     public static void main(String[] args) {
-        promise1NewObject();
-        promise2Write();
-        promise3Wipe();
-        promise4Fault();
-        promise5Lay();
-        promise6Gap();
-        promise7Stitcher();
-        promise8Sky();
-        promise9Together();
-        Due.end();
+        Due.runAll(MeresTest.class);
     }
 
     private static void promise1NewObject() {
@@ -119,7 +110,7 @@ public final class MeresTest {
         faultOf("d0,0,1;".repeat(5), 28);
         faultOf("r0;r2;r2;", 3);
         SeamMere x = Due.written("p3;x");
-        String before = Due.all(x);
+        String before = Story.now(x);
         x.fault();
         Due.same("fault", x, before);
     }
@@ -132,7 +123,7 @@ public final class MeresTest {
             x.pass(3);
             x.see(0, 1, 1);
             x.keep();
-            String before = Due.all(x);
+            String before = Story.now(x);
             Due.is("lay of " + text, x.lay(), NO);
             Due.same("lay that may not be", x, before);
         }
@@ -168,7 +159,7 @@ public final class MeresTest {
         Due.is("another's gap", y.gap(0, 4), 4);
         Due.is("no rain without r", y.sky(0, 1), 0);
         Due.write(y, "p2;g0,0,1,9,9;g3,0,1,9,9;d3,9,9;l1;r1;x");
-        String before = Due.all(y);
+        String before = Story.now(y);
         Due.is("a fault behind another's items", y.fault(), 38);
         Due.is("no lay of them", y.lay(), NO);
         Due.same("a text that is not laid", y, before);

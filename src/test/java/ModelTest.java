@@ -21,12 +21,11 @@ public final class ModelTest {
     }
 
     public static void main(String[] args) throws Exception {
+        Due.is("there are objects to compare", OBJECTS > 0 ? 1 : 0, 1);
         for (int seed = 0; seed < OBJECTS && wrong == 0; seed++) {
             new ModelTest(seed).run();
         }
-        if (wrong != 0) {
-            System.exit(1);
-        }
+        Due.end();
     }
 
     private void run() throws Exception {
@@ -152,7 +151,7 @@ public final class ModelTest {
         Object want = PlainMere.class.getMethod(name, types).invoke(plain, args);
         if (!got.equals(want)) {
             wrong++;
-            System.out.println(String.join(" ", said) + " answered " + got + ", due is " + want);
+            Due.is(String.join(" ", said), (int) got, (int) want);
         }
     }
 }

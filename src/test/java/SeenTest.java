@@ -3,12 +3,7 @@ public final class SeenTest {
     private static final int BAD = SeamMere.BAD, FULL = SeamMere.FULL, NONE = SeamMere.NONE;
 
     public static void main(String[] args) {
-        promise21See();
-        promise22Forget();
-        promise23And24();
-        promise23Seamed();
-        promise24Tells();
-        Due.end();
+        Due.runAll(SeenTest.class);
     }
 
     private static void promise21See() {
@@ -22,7 +17,7 @@ public final class SeenTest {
         for (int i = 1; i <= 8; i++) {
             Due.is("see", x.see(i % 2, 2, 1), i);
         }
-        String before = Due.all(x);
+        String before = Story.now(x);
         Due.is("the ninth", x.see(0, 1, 0), FULL);
         Due.is("BAD ahead of FULL", x.see(0, 0, 0), BAD);
         Due.same("what is not seen", x, before);
@@ -47,34 +42,27 @@ public final class SeenTest {
         Due.is("see anew", x.see(4, 5, 1), 1);
     }
 
-    private static void tell(String what, SeamMere x, int sets, int lowest, int pair, int part) {
-        Due.is(what + ": sets", x.seamed(0), sets);
-        Due.is(what + ": lowest", x.seamed(1), lowest);
-        Due.is(what + ": pair", x.tells(0), pair);
-        Due.is(what + ": part", x.tells(1), part);
-    }
-
     private static void promise23And24() {
         SeamMere x = Due.laid("p3;g0,0,1,0,1;g0,1,2,0,1;d0,0,1;");
-        tell("nothing seen", x, 4, 0, 1, 2);
+        Due.tell("nothing seen", x, 4, 0, 1, 2);
         x.send(0, 0);
         x.pass(1);
-        tell("however they are now", x, 4, 0, 1, 2);
+        Due.tell("however they are now", x, 4, 0, 1, 2);
         x.see(0, 1, 1);
-        tell("0 and 1 together", x, 2, 1, 2, 1);
+        Due.tell("0 and 1 together", x, 2, 1, 2, 1);
         x.see(2, 0, 0);
-        tell("2 and 0 apart", x, 1, 1, 12, 1);
-        String before = Due.all(x);
+        Due.tell("2 and 0 apart", x, 1, 1, 12, 1);
+        String before = Story.now(x);
         x.tells(0);
         Due.same("tells", x, before);
         x.see(1, 2, 0);
-        tell("all pairs seen", x, 1, 1, NONE, NONE);
+        Due.tell("all pairs seen", x, 1, 1, NONE, NONE);
         x.see(1, 2, 1);
-        tell("no such set", x, 0, NONE, NONE, NONE);
+        Due.tell("no such set", x, 0, NONE, NONE, NONE);
         x.forget();
         x.see(1, 2, 0);
         x.see(0, 1, 0);
-        tell("both apart", x, 1, 0, 2, 1);
+        Due.tell("both apart", x, 1, 0, 2, 1);
         int[] wrong = {2, -1, Integer.MAX_VALUE, Integer.MIN_VALUE};
         for (int what : wrong) {
             Due.is("seamed " + what, x.seamed(what), BAD);
@@ -88,7 +76,7 @@ public final class SeenTest {
     private static void promise23Seamed() {
         SeamMere none = Due.laid("p4;g0,0,1,0,1;g0,1,2,0,1;d0,0,1;");
         none.see(0, 3, 1);
-        tell("no gap to 3", none, 0, NONE, NONE, NONE);
+        Due.tell("no gap to 3", none, 0, NONE, NONE, NONE);
         SeamMere ring = Due.laid("p4;g0,0,1,0,1;g0,1,2,0,1;g0,2,3,0,1;g0,3,0,0,1;g0,0,2,0,1;d0,0,1;");
         ring.see(0, 2, 1);
         // The fifth gap, or 0-1-2, or 0-3-2: 16 + (16 - 3 * 3) sets, 0-1-2 being the lowest.
@@ -107,16 +95,16 @@ public final class SeenTest {
 
     private static void promise24Tells() {
         SeamMere x = Due.laid("p4;g0,2,3,0,1;g0,1,3,0,1;d0,0,1;");
-        tell("the lower piece first", x, 4, 0, 13, 2);
+        Due.tell("the lower piece first", x, 4, 0, 13, 2);
         SeamMere y = Due.laid("p4;g0,1,3,0,1;g0,1,2,0,1;d0,0,1;");
-        tell("then the other one", y, 4, 0, 12, 2);
+        Due.tell("then the other one", y, 4, 0, 12, 2);
         SeamMere two = Due.laid("p2;g0,0,1,0,1;g0,0,1,0,1;d0,0,1;");
-        tell("more together than not", two, 4, 0, 1, 3);
+        Due.tell("more together than not", two, 4, 0, 1, 3);
         two.see(1, 0, 1);
-        tell("seen backwards", two, 3, 1, NONE, NONE);
+        Due.tell("seen backwards", two, 3, 1, NONE, NONE);
         SeamMere apart = Due.laid("p5;g0,3,4,0,1;d0,0,1;");
         apart.see(3, 4, 0);
-        tell("no pair tells, the first", apart, 1, 0, 1, 1);
+        Due.tell("no pair tells, the first", apart, 1, 0, 1, 1);
         SeamMere alone = Due.laid("p3;g0,0,1,0,1;g0,1,2,0,1;d0,0,1;");
         Due.is("part, asked alone", alone.tells(1), 2);
         alone.see(0, 1, 1);

@@ -3,48 +3,36 @@ public final class SummersTest {
     private static final int BAD = SeamMere.BAD, NO = SeamMere.NO, FULL = SeamMere.FULL, NONE = SeamMere.NONE;
 
     public static void main(String[] args) {
-        promise25Showers();
-        promise25Edges();
-        promise26Summer();
-        promise26Draws();
-        promise27Keep();
-        promise28Back();
-        promise29Count();
-        Due.end();
-    }
-
-    private static void chance(String what, SeamMere x, int g, int n, int rain, int above, int below) {
-        Due.is(what + ": above", x.showers(g, n, rain, 0), above);
-        Due.is(what + ": below", x.showers(g, n, rain, 1), below);
+        Due.runAll(SummersTest.class);
     }
 
     private static void promise25Showers() {
         SeamMere x = Due.laid("g0,0,1,0,4;g2,0,1,0,8;g0,0,1,9,1;d0,0,1;d2,0,1;r1;");
         x.send(0, 0);
         x.send(1, 1);
-        String before = Due.all(x);
-        chance("no hour", x, 0, 0, 3, 0, 1);
-        chance("one hour", x, 0, 1, 3, 0, 1);
+        String before = Story.now(x);
+        Due.chance("no hour", x, 0, 0, 3, 0, 1);
+        Due.chance("one hour", x, 0, 1, 3, 0, 1);
         // Closed behind 2 hours if the first is dry; behind 3 in any case.
-        chance("3 of ten", x, 0, 2, 3, 7, 10);
-        chance("5 of ten", x, 0, 2, 5, 1, 2);
-        chance("whatever was told", x, 0, 2, 0, 1, 1);
-        chance("always rain", x, 0, 2, 10, 0, 1);
-        chance("3 hours", x, 0, 3, 5, 1, 1);
-        chance("WAKE", x, 1, 2, 4, 3, 5);
-        chance("WAKE in 3 hours", x, 1, 3, 10, 1, 1);
-        chance("nobody sent", x, 2, 8, 0, 0, 1);
+        Due.chance("3 of ten", x, 0, 2, 3, 7, 10);
+        Due.chance("5 of ten", x, 0, 2, 5, 1, 2);
+        Due.chance("whatever was told", x, 0, 2, 0, 1, 1);
+        Due.chance("always rain", x, 0, 2, 10, 0, 1);
+        Due.chance("3 hours", x, 0, 3, 5, 1, 1);
+        Due.chance("WAKE", x, 1, 2, 4, 3, 5);
+        Due.chance("WAKE in 3 hours", x, 1, 3, 10, 1, 1);
+        Due.chance("nobody sent", x, 2, 8, 0, 0, 1);
         Due.same("showers", x, before);
         x.pass(3);
-        chance("closed now", x, 0, 0, 5, 1, 1);
+        Due.chance("closed now", x, 0, 0, 5, 1, 1);
         SeamMere dark = Due.laid("g0,0,1,0,4;d0,0,1;l1;");
         dark.send(0, 0);
-        chance("by night", dark, 0, 8, 0, 0, 1);
+        Due.chance("by night", dark, 0, 8, 0, 0, 1);
         SeamMere two = Due.laid("g0,0,1,0,7;d2,0,1;d1,0,1;");
         two.send(0, 0);
         two.send(1, 0);
         // 5 in the first hour, 4 if it rains then: 7 behind the second in any case.
-        chance("two at it", two, 0, 2, 9, 1, 1);
+        Due.chance("two at it", two, 0, 2, 9, 1, 1);
     }
 
     private static void promise25Edges() {
@@ -52,11 +40,11 @@ public final class SummersTest {
         long8.send(0, 0);
         long8.send(1, 1);
         // All of the first 7 hours must be dry; of 15 stitches one may be lost: 0.9^7 + 7 * 0.9^6 * 0.1.
-        chance("seven dry hours", long8, 0, 8, 1, 4782969, 10000000);
-        chance("one of seven wet", long8, 1, 8, 1, 531441, 625000);
+        Due.chance("seven dry hours", long8, 0, 8, 1, 4782969, 10000000);
+        Due.chance("one of seven wet", long8, 1, 8, 1, 531441, 625000);
         SeamMere last = Due.laid("g0,0,1,1,14;d0,0,1;r1;");
         last.send(0, 0);
-        chance("an hour's flight, six dry ones", last, 0, 8, 2, 4096, 15625);
+        Due.chance("an hour's flight, six dry ones", last, 0, 8, 2, 4096, 15625);
         int[][] wrong = {{2, 0, 0, 0}, {-1, 0, 0, 0}, {0, 9, 0, 0}, {0, -1, 0, 0}, {0, 0, 11, 0}, {0, 0, -1, 0}, {0, 0, 0, 2},
             {0, 0, 0, -1}, {Integer.MAX_VALUE, 0, 0, 0}, {0, Integer.MAX_VALUE, 0, 0}, {0, 0, Integer.MIN_VALUE, 0}};
         for (int[] w : wrong) {
@@ -66,7 +54,7 @@ public final class SummersTest {
 
     private static void promise26Summer() {
         SeamMere x = Due.laid("g0,0,1,0,2;d0,0,1;l24;");
-        String before = Due.all(x);
+        String before = Story.now(x);
         // First draws: z 0: 1 (sends), 2: 59533 (5, nothing), 15: 35404 (4, a frog).
         Due.is("sent", x.summer(0, 1, 0), 1);
         Due.is("its stitches", x.summer(0, 1, 1), 2);
@@ -117,7 +105,7 @@ public final class SummersTest {
         SeamMere x = new SeamMere();
         Due.is("keep", x.keep(), 1);
         Due.is("keep two", x.keep(), 2);
-        String before = Due.all(x);
+        String before = Story.now(x);
         Due.is("keep three", x.keep(), FULL);
         Due.same("keep that may not be", x, before);
         Due.is("back", x.back(), 1);

@@ -26,7 +26,7 @@ public final class WildTest {
                 x.send(random.nextInt(4), random.nextInt(8));
                 x.pass(1);
             }
-            String before = Due.all(x);
+            String before = Story.now(x);
             int got = wild(x, methods[random.nextInt(methods.length)], random);
             if (got >= SeamMere.FULL && got <= SeamMere.BAD) {
                 Due.same("a refused call", x, before);
