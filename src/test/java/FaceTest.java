@@ -23,8 +23,7 @@ public final class FaceTest {
         for (Class<?> each : classes()) {
             inside(each);
         }
-        Path source = Path.of(System.getProperty("source", "src/main/java/SeamMere.java"));
-        language(Files.readString(source));
+        language(Files.readString(Path.of("src/main/java/SeamMere.java")));
         Due.end();
     }
 
